@@ -458,7 +458,7 @@ public final class TideMills {
             return NONE;
         }
         for (int hours = 1; hours <= FORESEEN_HOURS; hours++) {
-            trial.passHour();
+            trial.passHours(1);
             if (its.placeOf(sack) == NONE) {
                 return hours;
             }
@@ -509,7 +509,7 @@ public final class TideMills {
         return 31 * hash + stoneThatGrindsMost(mill);
     }
 
-    /** As Double.doubleToLongBits, which LANGUAGE.md leaves out, for a share from 0 to 1. */
+    /** Made by hand, as the library is not allowed here; only for a share from 0 to 1. */
     private static long bitsOfShare(double share) {
         if (share <= 0.0) {
             return 0L;
@@ -718,28 +718,28 @@ public final class TideMills {
 
         void passHours(int hours) {
             for (int passed = 0; passed < hours; passed++) {
-                passHour();
+                hour++;
+                letWaterIn();
+                Mill turning = millBehind(null);
+                turnedMill = numberOrNone(turning);
+                if (turning == null) {
+                    idleHours++;
+                } else {
+                    grind(turning, turn(turning));
+                }
             }
         }
 
-        void passHour() {
-            hour++;
+        private void letWaterIn() {
             int tideNow = tideIn(hour);
             for (Mill mill = firstMill; mill != null; mill = mill.neighbour) {
                 waterIn += mill.letIn(hour, tideNow);
             }
-            Mill turning = millBehind(null);
-            turnedMill = numberOrNone(turning);
-            if (turning == null) {
-                idleHours++;
-            } else {
-                grind(turning, turn(turning, tideNow));
-            }
         }
 
         /** Returns how often the stone turns. */
-        private int turn(Mill mill, int tideNow) {
-            int turns = mill.turnsOfStone(mill.headAt(tideNow));
+        private int turn(Mill mill) {
+            int turns = mill.turnsOfStone(mill.headAt(tideIn(hour)));
             mill.water -= waterForHour;
             waterUsed += waterForHour;
             mill.hoursTurned++;

@@ -63,6 +63,7 @@ public final class ForecastTest {
         check.due("then more", 1, mills.ifPassed(2, 0));
         check.due("then no more late", 0, mills.ifPassed(2, 1));
         check.due("then water", 40, mills.ifPassed(2, 3));
+        check.due("then idle hours", 1, mills.ifPassed(3, 2));
         check.dueThrow("ifPassed(0, 0)", mills, IllegalArgumentException.class, () -> mills.ifPassed(0, 0));
         check.dueThrow("ifPassed(49, 0)", mills, IllegalArgumentException.class, () -> mills.ifPassed(49, 0));
         check.dueThrow("ifPassed(1, -1)", mills, IllegalArgumentException.class, () -> mills.ifPassed(1, -1));
@@ -118,17 +119,23 @@ public final class ForecastTest {
         check.due("saved states", 5, mills.count(14));
         check.dueThrow("bestStone(5)", mills, IndexOutOfBoundsException.class, () -> mills.bestStone(5));
         check.dueThrow("bestStone(-1)", mills, IndexOutOfBoundsException.class, () -> mills.bestStone(-1));
-        check.due("2 times 2000 by the stone for 100", 40, twoTurnsADay(100).bestStone(0));
-        check.due("2 times 2000 by the stone for 101", 36, twoTurnsADay(101).bestStone(0));
+        check.due("2 times 2000 by the stone for 100", 40, twoTurnsADay(1, 100).bestStone(0));
+        check.due("2 times 2000 by the stone for 101", 36, twoTurnsADay(1, 101).bestStone(0));
+        check.due("in the hours 6 and 18, not in 30", 40, twoTurnsADay(5, 100).bestStone(0));
+        TideMills fromSix = twoTurnsADay(5, 1);
+        fromSix.pass(1);
+        fromSix.sack(0, 100, 40);
+        check.due("in the hours 18 and 30", 40, fromSix.bestStone(0));
     }
 
     /** The pond has 100 in the hours 2 and 14, and a head of 50 in the hours 6 and 18. */
-    private static TideMills twoTurnsADay(int hardness) {
+    private static TideMills twoTurnsADay(int hour, int hardness) {
         TideMills mills = new TideMills();
-        mills.sack(0, hardness, 40);
         mills.gate(0, 1, 2);
         mills.set(1, 50);
         mills.set(2, 100);
+        mills.pass(hour);
+        mills.sack(0, hardness, 40);
         return mills;
     }
 
@@ -164,6 +171,11 @@ public final class ForecastTest {
         }
         mills.clearBuffer();
         dueDigest(mills);
+        for (int more = 0; more < 12; more++) {
+            mills.pass(12);
+            mills.sack(more % 5, 1, more % 3 == 0 ? 1 : 9999);
+            dueDigest(mills);
+        }
     }
 
     private static void dueDigest(TideMills mills) {

@@ -114,12 +114,14 @@ public final class TextsTest {
     }
 
     private static void play() {
-        TideMills mills = with("g4,9,10;s4,1,9999;s0,120,2;+3");
+        TideMills mills = with("g4,9,11;s4,7,9999;s0,120,2;+3");
         check.due("firstError", 29, mills.firstError());
         check.due("play", 4, mills.play());
         check.due("hour", 3, mills.count(0));
         check.due("wheel", 9, mills.mill(4, 5));
-        check.due("stone", 10, mills.mill(4, 6));
+        check.due("stone", 11, mills.mill(4, 6));
+        check.due("hardness", 7, mills.sackOf(0, 1));
+        check.due("rest", 7, mills.sackOf(0, 2));
         check.due("ground", 1, mills.count(8));
         check.due("late", 1, mills.count(9));
         check.due("sack at mill 4", 0, mills.sackAt(4, 0));

@@ -40,6 +40,8 @@ public final class UndoTest {
         long before = mills.digest();
         mills.pass(9);
         mills.undo();
+        check.due("hardness behind pass", 400, mills.sackOf(0, 1));
+        check.due("when it is due behind pass", 20, mills.sackOf(0, 3));
         check.due("digest behind pass", 0, before - mills.digest());
         mills.carry(2, 0);
         mills.undo();
