@@ -182,7 +182,7 @@ public final class TideMills {
 
     public int sackAt(int mill, int place) throws IndexOutOfBoundsException, IllegalArgumentException {
         Mill its = millOrThrow(mill);
-        requireRange(place, 0, Integer.MAX_VALUE);
+        requireNotBelowZero(place);
         return its.numberAt(place);
     }
 
@@ -197,7 +197,7 @@ public final class TideMills {
     }
 
     public int tide(int hour) throws IllegalArgumentException {
-        requireRange(hour, 0, Integer.MAX_VALUE);
+        requireNotBelowZero(hour);
         return now.tideIn(hour);
     }
 
@@ -209,7 +209,7 @@ public final class TideMills {
     // ---- what would be; nothing is changed
 
     public int next(int rank) throws IllegalArgumentException {
-        requireRange(rank, 0, Integer.MAX_VALUE);
+        requireNotBelowZero(rank);
         return millOfRank(rank);
     }
 
@@ -280,6 +280,12 @@ public final class TideMills {
     private static void requireRange(int value, int least, int most) {
         if (value < least || value > most) {
             throw new IllegalArgumentException("out of range");
+        }
+    }
+
+    private static void requireNotBelowZero(int value) {
+        if (value < 0) {
+            throw new IllegalArgumentException("below 0");
         }
     }
 
@@ -472,14 +478,15 @@ public final class TideMills {
             return MOST_TEETH;
         }
         int best = MOST_TEETH;
-        int leastLeft = Integer.MAX_VALUE;
+        int most = NONE;
+        int rests = now.restsOfAll();
         for (int stone = MOST_TEETH; stone >= LEAST_TEETH; stone -= 4) {
             trial.copyFrom(now);
             trial.changeStone(mill.number, stone);
             trial.passHours(DAY_HOURS);
-            int left = trial.restsOfAll();
-            if (left < leastLeft) {
-                leastLeft = left;
+            int less = rests - trial.restsOfAll();
+            if (less > most) {
+                most = less;
                 best = stone;
             }
         }

@@ -23,9 +23,9 @@ final class Check {
         }
     }
 
-    /** Also tells when the call changes something that the digest shows. */
+    /** Also tells when the call changes something that can be looked at. */
     void dueThrow(String call, TideMills mills, Class<? extends RuntimeException> want, Call made) {
-        long before = mills.digest();
+        String before = View.of(mills);
         String got = "nothing";
         try {
             made.answer();
@@ -33,7 +33,7 @@ final class Check {
             got = e.getClass().getName();
         }
         dueText(call + " throws", want.getName(), got);
-        if (mills.digest() != before) {
+        if (!View.of(mills).equals(before)) {
             report(call + " threw and changed the state");
         }
     }
