@@ -157,74 +157,28 @@ public final class ForecastTest {
 
     private static void digest() {
         TideMills mills = new TideMills();
-        dueDigest(mills);
+        dueDigest(mills, "");
         mills.append('s');
         mills.append('~');
-        dueDigest(mills);
+        dueDigest(mills, "s~");
         mills.sack(0, 10, 2);
         mills.sack(0, 900, 3);
         mills.sack(3, 40, 3);
         mills.sack(3, 600, 9);
         for (int hour = 0; hour < 8; hour++) {
             mills.pass(1);
-            dueDigest(mills);
+            dueDigest(mills, "s~");
         }
         mills.clearBuffer();
-        dueDigest(mills);
+        dueDigest(mills, "");
         for (int more = 0; more < 12; more++) {
             mills.pass(12);
             mills.sack(more % 5, 1, more % 3 == 0 ? 1 : 9999);
-            dueDigest(mills);
+            dueDigest(mills, "");
         }
     }
 
-    private static void dueDigest(TideMills mills) {
-        long[] hash = {3659};
-        for (int what = 0; what <= 14; what++) {
-            add(hash, mills.count(what));
-        }
-        for (int mill = 0; mill < 5; mill++) {
-            for (int what = 0; what <= 10; what++) {
-                add(hash, mills.mill(mill, what));
-            }
-            add(hash, mills.whyNot(mill));
-            for (int place = 0; place < mills.mill(mill, 7); place++) {
-                add(hash, mills.sackAt(mill, place));
-                add(hash, mills.sackOf(mills.sackAt(mill, place), 2));
-            }
-            add(hash, mills.mill(mill, 7) == 0 ? -1 : mills.groundIn(mills.sackAt(mill, 0)));
-            add(hash, mills.bestStone(mill));
-        }
-        for (int hour = 0; hour <= 11; hour++) {
-            add(hash, mills.tide(hour));
-        }
-        for (int rank = 0; rank <= 4; rank++) {
-            add(hash, mills.next(rank));
-        }
-        add(hash, mills.chosen());
-        for (int what = 0; what <= 3; what++) {
-            add(hash, mills.ifPassed(12, what));
-        }
-        add(hash, Double.doubleToLongBits(mills.inTime()));
-        int[] codes = codesOf(mills);
-        add(hash, codes.length);
-        for (int code : codes) {
-            add(hash, code);
-        }
-        check.due("digest in the hour " + mills.count(0), 0, hash[0] - mills.digest());
-    }
-
-    /** The digest test types these two alone. */
-    private static int[] codesOf(TideMills mills) {
-        int length = mills.clearBuffer();
-        int[] codes = length == 0 ? new int[0] : new int[] {'s', '~'};
-        for (int code : codes) {
-            mills.append(code);
-        }
-        return codes;
-    }
-
-    private static void add(long[] hash, long value) {
-        hash[0] = 31 * hash[0] + value;
+    private static void dueDigest(TideMills mills, String text) {
+        check.due("digest in the hour " + mills.count(0), 0, DueDigest.of(mills, text) - mills.digest());
     }
 }

@@ -7,20 +7,22 @@ final class View {
         this.mills = mills;
     }
 
-    /** Changes nothing; the buffer shows in the digest alone. */
-    static String of(TideMills mills) {
+    /** What a saved state holds, and what follows from it. */
+    static String ofState(TideMills mills) {
         View view = new View(mills);
         view.looks();
-        view.number(mills.digest());
         return view.text.toString();
     }
 
-    /** Also the saved states and the snapshot, which can be looked at only by going back to them. */
+    /** Also how many states are saved, and the buffer, which shows in the digest alone. */
+    static String of(TideMills mills) {
+        return ofState(mills) + mills.count(14) + ' ' + mills.digest() + ' ' + mills.firstError();
+    }
+
+    /** Also the saved states and the snapshot, which are looked at by going back to them. */
     static String withAllStates(TideMills mills) {
         View view = new View(mills);
-        view.looks();
-        view.number(mills.digest());
-        view.number(mills.firstError());
+        view.text.append(of(mills)).append('\n');
         for (int left = mills.count(14); left > 0; left--) {
             mills.undo();
             view.looks();
@@ -34,7 +36,7 @@ final class View {
     }
 
     private void looks() {
-        for (int what = 0; what <= 14; what++) {
+        for (int what = 0; what <= 13; what++) {
             number(mills.count(what));
         }
         for (int mill = 0; mill < 5; mill++) {
