@@ -626,7 +626,8 @@ public final class TideMills {
         }
 
         int tideIn(int anHour) {
-            return tideStep * Math.abs(6 - anHour % TIDE_HOURS);
+            int tideHour = anHour % TIDE_HOURS;
+            return tideStep * (tideHour < 6 ? 6 - tideHour : tideHour - 6);
         }
 
         int waterInPonds() {

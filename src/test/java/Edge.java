@@ -56,7 +56,7 @@ final class Edge {
         check.due(sentence, want, call.answer(made(setup)));
     }
 
-    /** A call that is refused, after which nothing has changed, with few saved states and with all that there can be. */
+    /** A call that is refused, after which nothing has changed, be the saved states few or six. */
     void refuses(String sentence, Class<? extends RuntimeException> want, Setup setup, Call call) {
         refusesHere(sentence, want, setup, call);
         refusesHere(sentence + " (with 6 saved states and a snapshot)", want, mills -> {

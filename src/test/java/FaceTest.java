@@ -141,7 +141,8 @@ public final class FaceTest {
 
     private static void source(String text) {
         Matcher forbidden = Pattern.compile("\\b(import|package|try|catch|finally|synchronized|assert|record|"
-                + "System\\.(?!arraycopy)|equals|hashCode|toString|lambda|Exact|MAX_VALUE|MIN_VALUE|volatile|transient|native)\\b|->|::")
+                + "System\\.(?!arraycopy)|equals|hashCode|toString|lambda|Exact|MAX_VALUE|MIN_VALUE|"
+                + "volatile|transient|native)\\b|->|::")
                 .matcher(text.replaceAll("/\\*.*?\\*/|//[^\n]*", ""));
         while (forbidden.find()) {
             check.report("TideMills.java uses " + forbidden.group());

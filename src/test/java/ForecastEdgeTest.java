@@ -230,7 +230,7 @@ public final class ForecastEdgeTest {
         edge.range("bestStone, mill: 0 to 4", Edge.INDEX, 0, 4, TideMills::bestStone);
     }
 
-    /** The pond has 100 in the hours 2 and 14; its head is 50 in the hours 6 and 18, by 40 teeth 2000 a stone's tooth. */
+    /** The pond has 100 in the hours 2 and 14; in the hours 6 and 18 its stone turns 2000 times by its teeth. */
     private static Edge.Setup twoTurnsADay(int hour, int hardness) {
         return m -> {
             m.gate(0, 1, 2);

@@ -276,7 +276,7 @@ public final class TextsEdgeTest {
         TideMills last = Edge.made(FULL_MILL);
         edge.due("the last part cannot be done", 2, played(last, "s1,1,1;g0,8,8;s2,1,1"));
         edge.due("the sack of another mill came", 7, last.count(6));
-        edge.due("the seventh of a text", 6, played(new TideMills(), "s2,1,1;s2,1,1;s2,1,1;s2,1,1;s2,1,1;s2,1,1;s2,1,1"));
+        edge.due("the seventh of a text", 6, played(new TideMills(), "s2,1,1;".repeat(6) + "s2,1,1"));
     }
 
     private static void partsMakeRoomForParts() {
